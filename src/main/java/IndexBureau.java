@@ -786,7 +786,7 @@ public final class IndexBureau {
         int size;
 
         void become(long v) {
-            Arrays.fill(digits, 0);
+            clear();
             digits[0] = (int) (v & MASK);
             digits[1] = (int) (v >> BITS & MASK);
             digits[2] = (int) (v >> 2 * BITS & MASK);
@@ -794,8 +794,15 @@ public final class IndexBureau {
         }
 
         void copy(Whole other) {
-            System.arraycopy(other.digits, 0, digits, 0, ROOM);
+            System.arraycopy(other.digits, 0, digits, 0, Math.max(size, other.size));
             size = other.size;
+        }
+
+        private void clear() {
+            for (int i = 0; i < size; i++) {
+                digits[i] = 0;
+            }
+            size = 0;
         }
 
         void trim(int most) {
@@ -857,7 +864,7 @@ public final class IndexBureau {
 
         /** Becomes a times b; it is neither of them. */
         void setProduct(Whole a, Whole b) {
-            Arrays.fill(digits, 0);
+            clear();
             for (int i = 0; i < a.size && i + b.size < ROOM; i++) {
                 long carry = 0;
                 for (int j = 0; j < b.size; j++) {

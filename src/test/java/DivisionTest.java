@@ -11,6 +11,8 @@ import java.util.Random;
 public final class DivisionTest {
     private static final int BITS = 30;
     private static final int ROUNDS = 200000;
+    private static final int HALF = 1 << BITS - 1;
+    private static final int[] EDGES = {0, 1, 2 * HALF - 1, 2 * HALF - 2, HALF, HALF - 1, HALF + 1};
 
     private final Random random = new Random(7);
     private final Class<?> wholeClass = Class.forName("IndexBureau$Whole");
@@ -70,8 +72,7 @@ public final class DivisionTest {
         BigInteger value = BigInteger.ZERO;
         int count = 1 + random.nextInt(most);
         for (int i = 0; i < count; i++) {
-            int[] edges = {0, 1, (1 << BITS) - 1, (1 << BITS) - 2, 1 << BITS - 1, (1 << BITS - 1) - 1, 1 << BITS - 1 | 1};
-            int digit = random.nextInt(4) == 0 ? random.nextInt(1 << BITS) : edges[random.nextInt(edges.length)];
+            int digit = random.nextInt(4) == 0 ? random.nextInt(1 << BITS) : EDGES[random.nextInt(EDGES.length)];
             value = value.shiftLeft(BITS).add(BigInteger.valueOf(digit));
         }
         return value;

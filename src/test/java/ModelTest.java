@@ -11,6 +11,7 @@ import java.util.Random;
 public final class ModelTest {
     private static final int RUNS = 1500;
     private static final int CALLS = 512;
+    private static final int LONG_RUNS = 200;
 
     /** A fraction in least terms. */
     private record Ratio(BigInteger up, BigInteger down) {
@@ -418,12 +419,15 @@ public final class ModelTest {
         private final int capInHundred;
         private final int greatInHundred;
         private final int closeInHundred;
+        /** All shares are members, all numbers great and caps low: the numbers inside grow longest. */
+        private final boolean wide;
 
         Drawer(long seed) {
             random = new Random(seed);
-            wrongInHundred = random.nextInt(3) * 6;
+            wide = random.nextInt(4) == 0;
+            wrongInHundred = wide ? 0 : random.nextInt(3) * 6;
             capInHundred = random.nextInt(4) * 12;
-            greatInHundred = random.nextInt(5) * 25;
+            greatInHundred = wide ? 100 : random.nextInt(5) * 25;
             closeInHundred = 5 + random.nextInt(20);
         }
 
@@ -459,13 +463,14 @@ public final class ModelTest {
         }
 
         Call base() {
-            int members = chance(wrongInHundred) ? odd() : 1 + random.nextInt(255);
+            int members = wide ? 255 : chance(wrongInHundred) ? odd() : 1 + random.nextInt(255);
             return new Call(2, members, amount(1000000), 0, 0, 0);
         }
 
         Call event() {
             if (chance(capInHundred)) {
-                return new Call(4, 8, share(), chance(wrongInHundred) ? odd() : 12 + random.nextInt(60), 0, 0);
+                int most = chance(wrongInHundred) ? odd() : 12 + random.nextInt(wide ? 4 : 60);
+                return new Call(4, 8, share(), most, 0, 0);
             }
             int kind = chance(wrongInHundred) ? odd() : random.nextInt(9);
             int most = kind <= 1 ? (chance(70) ? 6 : 1000) : kind == 7 || kind == 8 ? 100 : 9999999;
@@ -519,6 +524,7 @@ public final class ModelTest {
     }
 
     private static final int[] OUTCOMES_SEEN = new int[4];
+    private static int longest = 0;
 
     /** Whether the printed fractions are the same to the last character, and all else that can be asked. */
     private static String difference(IndexBureau x, Model m) {
@@ -527,6 +533,7 @@ public final class ModelTest {
                 if (x.print(what, share) != m.print(what, share)) {
                     return "length of print(" + what + ", " + share + "), due is " + m.printed;
                 }
+                longest = Math.max(longest, m.printed.length());
                 for (int i = 0; i <= m.printed.length(); i++) {
                     if (x.character(i) != m.character(i)) {
                         return "character " + i + " of print(" + what + ", " + share + "), due is " + m.printed;
@@ -542,26 +549,73 @@ public final class ModelTest {
         return x.check() == m.check() ? "" : "check(), due is " + m.check();
     }
 
+    /** Both answer a call; what can be asked behind a close is asked, too. */
+    private static boolean callAgrees(String run, Call call, IndexBureau program, Model model) {
+        String got = onProgram(program, call);
+        String due = onModel(model, call);
+        if (!got.equals(due)) {
+            System.out.println(run + ": " + call.text() + " answered " + got + ", due is " + due);
+            return false;
+        }
+        if (call.method() != 5) {
+            return true;
+        }
+        model.outcomes.forEach(o -> OUTCOMES_SEEN[o]++);
+        String difference = difference(program, model);
+        if (!difference.isEmpty()) {
+            System.out.println(run + ", behind a close: " + difference);
+        }
+        return difference.isEmpty();
+    }
+
     private static boolean runAgrees(long seed) {
         Drawer drawer = new Drawer(seed);
         IndexBureau program = new IndexBureau();
         Model model = new Model();
         for (int i = 0; i < CALLS; i++) {
-            Call call = drawer.next(i);
-            String got = onProgram(program, call);
-            String due = onModel(model, call);
-            if (!got.equals(due)) {
-                System.out.println("seed " + seed + ", call " + i + ": " + call.text() + " answered " + got
-                        + ", due is " + due);
+            if (!callAgrees("seed " + seed + ", call " + i, drawer.next(i), program, model)) {
                 return false;
             }
-            if (call.method() == 5) {
-                model.outcomes.forEach(o -> OUTCOMES_SEEN[o]++);
-                String difference = difference(program, model);
-                if (!difference.isEmpty()) {
-                    System.out.println("seed " + seed + ", behind call " + i + ": " + difference);
-                    return false;
-                }
+        }
+        return true;
+    }
+
+    /** A divisor as long as it may be, and behind it a cap whose factors have nothing in common with the prices. */
+    private static List<Call> longRun(int seed) {
+        Random random = new Random(seed);
+        List<Call> calls = new ArrayList<>();
+        for (int s = 0; s < 8; s++) {
+            calls.add(new Call(0, s, 0, 9999999 - random.nextInt(1000), 0, 0));
+            calls.add(new Call(0, s, 1, s == 7 ? 9000000 : 9999999 - random.nextInt(1000), 0, 0));
+            calls.add(new Call(0, s, 2, s == 7 ? 49 : 97, 0, 0));
+        }
+        calls.add(new Call(2, 255, 999983, 0, 0, 0));
+        for (int round = 0; round < 7 + seed % 4; round++) {
+            calls.add(new Call(0, round % 8, 0, 9999999 - random.nextInt(1000), 0, 0));
+            calls.add(new Call(4, 6, (round + 3) % 8, 9999999 - random.nextInt(1000), 0, 0));
+            calls.add(new Call(5, 0, 0, 0, 0, 0));
+        }
+        for (int most = 13; most > 11; most--) {
+            calls.add(new Call(4, 8, 0, most, 0, 0));
+            calls.add(new Call(5, 0, 0, 0, 0, 0));
+        }
+        for (int s = 0; s < 8; s++) {
+            calls.add(new Call(0, s, 0, 9999999 - random.nextInt(1000), 0, 0));
+            calls.add(new Call(5, 0, 0, 0, 0, 0));
+        }
+        for (int kind = 0; kind < 9; kind++) {
+            calls.add(new Call(4, kind, 3, kind == 0 ? 1 : 20, 1, 9999));
+            calls.add(new Call(5, 0, 0, 0, 0, 0));
+        }
+        return calls;
+    }
+
+    private static boolean longRunAgrees(int seed) {
+        IndexBureau program = new IndexBureau();
+        Model model = new Model();
+        for (Call call : longRun(seed)) {
+            if (!callAgrees("long run " + seed, call, program, model)) {
+                return false;
             }
         }
         return true;
@@ -572,11 +626,15 @@ public final class ModelTest {
         for (int seed = 0; seed < RUNS && wrong < 20; seed++) {
             wrong += runAgrees(seed) ? 0 : 1;
         }
+        for (int seed = 0; seed < LONG_RUNS && wrong < 20; seed++) {
+            wrong += longRunAgrees(seed) ? 0 : 1;
+        }
         for (int o = 0; o < OUTCOMES_SEEN.length; o++) {
             System.out.println("events with outcome " + o + ": " + OUTCOMES_SEEN[o]);
             // A test that never sees an outcome says nothing about it.
             wrong += OUTCOMES_SEEN[o] == 0 ? 1 : 0;
         }
+        System.out.println("the longest fraction: " + longest + " characters");
         System.out.println(wrong == 0 ? "program and model agree" : wrong + " runs are wrong");
         if (wrong != 0) {
             System.exit(1);
