@@ -63,7 +63,7 @@ public final class IndexBureau {
             throw new IllegalArgumentException();
         }
         shares.members = members;
-        shares.resetFactors(Shares.ALL_BITS);
+        shares.resetFactors();
         desk.addUp(shares, divisor);
         desk.scale(divisor.down, level);
         desk.cancel(divisor.up, divisor.down);
@@ -292,8 +292,7 @@ public final class IndexBureau {
             for (int what = 0; what < KINDS_OF_VALUE; what++) {
                 Arrays.fill(value[what], 1);
             }
-            Arrays.fill(factorUp, 1L);
-            Arrays.fill(factorDown, 1L);
+            resetFactors();
             members = 0;
         }
 
@@ -327,13 +326,10 @@ public final class IndexBureau {
             members = other.members;
         }
 
-        void resetFactors(int bits) {
-            for (int s = 0; s < HOW_MANY; s++) {
-                if ((bits >> s & 1) == 1) {
-                    factorUp[s] = 1;
-                    factorDown[s] = 1;
-                }
-            }
+        /** A share that has left keeps its factor, so those of shares that are no members, too. */
+        void resetFactors() {
+            Arrays.fill(factorUp, 1L);
+            Arrays.fill(factorDown, 1L);
         }
 
         /** Does what an event does to the shares; nothing, if its outcome is not DONE. */
@@ -422,7 +418,8 @@ public final class IndexBureau {
                 return Outcome.WRONG_MEMBERS;
             }
             members = members | 1 << share;
-            resetFactors(1 << share);
+            factorUp[share] = 1;
+            factorDown[share] = 1;
             return Outcome.DONE;
         }
 
@@ -442,8 +439,7 @@ public final class IndexBureau {
             int large = findLarge(inHundred);
             long up = inHundred * plainWorthOf(members & ~large);
             long left = 100L - inHundred * Integer.bitCount(large);
-            // The factor of a share that has left stays till it joins.
-            resetFactors(members);
+            resetFactors();
             for (int s = 0; s < HOW_MANY; s++) {
                 if ((large >> s & 1) == 1) {
                     putFactor(s, up, left * plainWorth(s));

@@ -279,7 +279,7 @@ public final class ModelTest {
                 return 2;
             }
             for (int s = 0; s < 8; s++) {
-                next[s] = next[s].member() ? next[s].withFactor(ONE) : next[s];
+                next[s] = next[s].withFactor(ONE);
             }
             // One at a time, the greatest first: the document makes all that are too great large at
             // once, which must come to the same.

@@ -376,12 +376,13 @@ public final class PromisesTest {
         dueText("divisor", divisorOf(x), "4");
         dueText("level", levelOf(x), "10");
         dueRefused(x, 2, 4, 0, 0, 0, 0);
-        due("cap without it", after(x, 8, 0, 50, 0, 0), 0);
+        due("an event without it", after(x, 7, 1, 1, 0, 0), 0);
+        due("an event of its own", after(x, 6, 0, 1, 0, 0), 0);
         dueText("its factor stays till it joins", factorOf(x, 0), "2/3");
         due("join", after(x, 5, 0, 0, 0, 0), 0);
         dueText("its factor", factorOf(x, 0), "1");
         dueText("level", levelOf(x), "10");
-        dueText("divisor", divisorOf(x), "8");
+        dueText("divisor", divisorOf(x), "10");
         due("leave", after(x, 4, 0, 0, 0, 0), 0);
         due("leave", after(x, 4, 2, 0, 0, 0), 0);
         dueRefused(x, 2, 4, 1, 0, 0, 0);
@@ -444,9 +445,40 @@ public final class PromisesTest {
         dueText("factor", factorOf(three, 2), "85/99");
     }
 
+    /** Shares 0 and 1 are members; share 2 was capped, and has left with the factor 2/15. */
+    private static IndexBureau ofOneLeft() {
+        IndexBureau x = ofWorths(1, 7, 60);
+        due("cap", after(x, 8, 0, 50, 0, 0), 0);
+        due("leave", after(x, 4, 2, 0, 0, 0), 0);
+        dueText("the factor of one that has left", factorOf(x, 2), "2/15");
+        return x;
+    }
+
+    private static void capsBehindLeaving() {
+        IndexBureau x = ofOneLeft();
+        for (int bad : new int[] {0, 49, 101}) {
+            dueRefused(x, 2, 8, 2, bad, 0, 0);
+        }
+        due("cap with a large one", after(x, 8, 2, 50, 0, 0), 0);
+        dueText("the factor of a large one", factorOf(x, 1), "1/7");
+        dueText("the factor of one that is not large", factorOf(x, 0), "1");
+        dueText("the factor of one that has left", factorOf(x, 2), "1");
+        dueText("level", levelOf(x), "10");
+        dueText("divisor", divisorOf(x), "1/5");
+        due("check", x.check(), 1);
+        IndexBureau none = ofOneLeft();
+        due("cap without a large one", after(none, 8, 0, 100, 0, 0), 0);
+        dueText("the factor of one that has left", factorOf(none, 2), "1");
+        IndexBureau once = ofWorths(1, 7, 60);
+        due("cap", after(once, 8, 0, 50, 0, 0), 0);
+        due("a cap noted", once.event(8, 0, 90, 0, 0), 1);
+        due("and one that leaves before it", once.event(4, 2, 0, 0, 0), 2);
+        due("close", once.close(), 2);
+        dueText("the factor of one that left at the same close", factorOf(once, 2), "1");
+    }
+
     /** Each close divides the divisor by one worth and multiplies it by another, with little in common. */
-    private static IndexBureau longDivisor() {
-        IndexBureau x = ofWorths(1, 7);
+    private static void makeDivisorLong(IndexBureau x) {
         for (int i = 0; i < 40; i++) {
             x.set(0, PRICE, 9999999 - 2 * i);
             x.event(2, 0, 4999999 + 3 * i, 0, 0);
@@ -454,15 +486,15 @@ public final class PromisesTest {
             due("above", x.places(0) <= 512 ? 1 : 0, 1);
             due("below", x.places(1) <= 512 ? 1 : 0, 1);
             if (x.outcome(0) == 3) {
-                return x;
+                return;
             }
         }
         fault("the divisor is never too long");
-        return x;
     }
 
     private static void tooLong() {
-        IndexBureau x = longDivisor();
+        IndexBureau x = ofWorths(1, 7);
+        makeDivisorLong(x);
         dueText("above", x.places(0) > 480 || x.places(1) > 480 ? "long" : "short", "long");
         dueRefused(x, 3, 2, 0, 4999998, 0, 0);
         dueRefused(x, 3, 6, 0, 9999991, 0, 0);
@@ -475,6 +507,10 @@ public final class PromisesTest {
         dueRefused(x, 3, 5, 2, 0, 0, 0);
         dueRefused(x, 3, 8, 0, 50, 0, 0);
         due("check", x.check(), 1);
+        IndexBureau left = ofOneLeft();
+        makeDivisorLong(left);
+        dueRefused(left, 3, 8, 0, 50, 0, 0);
+        dueText("the factor of one that has left", factorOf(left, 2), "2/15");
     }
 
     private static void orderOfClose() {
@@ -505,6 +541,7 @@ public final class PromisesTest {
         comingAndGoing();
         countsAndFloats();
         caps();
+        capsBehindLeaving();
         tooLong();
         orderOfClose();
         allDays();
