@@ -821,12 +821,27 @@ public final class BoundaryTest {
         dueDone(more, CAP, 0, 40, 0, 0);
         dueText("the first large one", more.factor(0), "2/7");
         dueText("one that is then worth a little more", more.factor(1), "20/21");
+        Bureau last = of(60, 40);
+        dueDone(last, CAP, 0, 50, 0, 0);
+        dueText("the large one", last.factor(0), "2/3");
+        dueText("the last one, then worth just the cap", last.factor(1), "1");
         Bureau thrice = of(10, 31, 40, 60);
         dueDone(thrice, CAP, 0, 30, 0, 0);
         dueText("large at first", thrice.factor(3), "1/2");
         dueText("large then", thrice.factor(2), "3/4");
         dueText("large at last", thrice.factor(1), "30/31");
         dueText("never large", thrice.factor(0), "1");
+    }
+
+    @Says(where = "Terms, kind 8", text = "then LARGE members are found: while some other member is worth more")
+    private static void asManyRoundsAsThereCanBe() {
+        Bureau x = of(2604, 624, 328, 276, 265, 262, 261, 180);
+        dueDone(x, CAP, 0, 13, 0, 0);
+        String[] factors = {"65/651", "5/12", "65/82", "65/69", "52/53", "130/131", "260/261", "1"};
+        for (int s = 0; s < 8; s++) {
+            dueText("factor of " + s, x.factor(s), factors[s]);
+            due("weight of " + s, x.weight(s), s < 7 ? 130000000 : 90000000);
+        }
     }
 
     @Says(where = "Terms, kind 8",
@@ -1978,8 +1993,9 @@ public final class BoundaryTest {
     @Says(where = "Promise 17", text = "and what caps made is worth just that, and not more: 1")
     private static void checkBehindCaps() {
         Bureau x = of(70, 20, 10);
-        dueDone(x, CAP, 0, 40, 0, 0);
-        due("one is large, and one worth just the cap", x.check(), 1);
+        x.set(7, PRICE, MOST_PRICE);
+        dueDone(x, CAP, 7, 40, 0, 0);
+        due("one is large, one worth just the cap, and one that is no member worth more", x.check(), 1);
         due("weight", x.weight(0), 400000000);
         due("weight", x.weight(1), 400000000);
         dueDone(x, CAP, 0, 34, 0, 0);
