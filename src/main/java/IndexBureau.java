@@ -660,9 +660,11 @@ public final class IndexBureau {
             number.copy(product);
         }
 
+        /** Multiplies without multiply(), which would make the deepest calls of a close one deeper. */
         void scale(Whole number, long by) {
             factor.become(by);
-            multiply(number, factor);
+            product.setProduct(number, factor);
+            number.copy(product);
         }
 
         /** Divides; what remains is left in rest. */
