@@ -14,7 +14,6 @@ import java.util.List;
  */
 public final class BoundaryTest {
     private static final int NONE = IndexBureau.NONE;
-    private static final int MOST_CALLS = 512;
 
     private static final int PRICE = 0;
     private static final int COUNT = 1;
@@ -56,104 +55,6 @@ public final class BoundaryTest {
     /** A call whose exception is looked at. */
     private interface Attempt {
         void make();
-    }
-
-    /** The program with its calls counted, because behind the last one its answers are free. */
-    private static final class Bureau {
-        private final IndexBureau program = new IndexBureau();
-        private int calls = 0;
-
-        private IndexBureau next() {
-            calls++;
-            if (calls > MOST_CALLS) {
-                throw new AssertionError("the test makes more calls than the document promises");
-            }
-            return program;
-        }
-
-        int set(int share, int what, int v) {
-            return next().set(share, what, v);
-        }
-
-        int get(int share, int what) {
-            return next().get(share, what);
-        }
-
-        void base(int members, int level) {
-            next().base(members, level);
-        }
-
-        int members() {
-            return next().members();
-        }
-
-        int event(int kind, int share, int a, int b, int c) {
-            return next().event(kind, share, a, b, c);
-        }
-
-        int close() {
-            return next().close();
-        }
-
-        int outcome(int i) {
-            return next().outcome(i);
-        }
-
-        int noted(int i) {
-            return next().noted(i);
-        }
-
-        int days() {
-            return next().days();
-        }
-
-        long published(int day) {
-            return next().published(day);
-        }
-
-        long level() {
-            return next().level();
-        }
-
-        int weight(int share) {
-            return next().weight(share);
-        }
-
-        int print(int what, int share) {
-            return next().print(what, share);
-        }
-
-        int character(int i) {
-            return next().character(i);
-        }
-
-        int places(int what) {
-            return next().places(what);
-        }
-
-        int check() {
-            return next().check();
-        }
-
-        String text(int length) {
-            StringBuilder text = new StringBuilder();
-            for (int i = 0; i < length; i++) {
-                text.append((char) character(i));
-            }
-            return text.toString();
-        }
-
-        String exactLevel() {
-            return text(print(0, 0));
-        }
-
-        String divisor() {
-            return text(print(1, 0));
-        }
-
-        String factor(int share) {
-            return text(print(2, share));
-        }
     }
 
     private static void due(String what, long got, long want) {
@@ -318,7 +219,7 @@ public final class BoundaryTest {
         due("count", x.get(0, COUNT), MOST_COUNT - 249);
         due("check", x.check(), 1);
         due("print", x.print(1, 0), "99997500".length());
-        due("calls before the last", x.calls, 511);
+        due("calls before the last", x.calls(), 511);
         due("the last call", x.character(7), '0');
     }
 

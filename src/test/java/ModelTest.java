@@ -9,9 +9,16 @@ import java.util.Random;
  * document over BigInteger; every answer must be the same.
  */
 public final class ModelTest {
-    private static final int RUNS = 1500;
-    private static final int CALLS = 512;
-    private static final int LONG_RUNS = 200;
+    private static final int RUNS = 3000;
+    private static final int LONG_RUNS = 40;
+    private static final int MOST_CALLS = 512;
+
+    private static final int CLOSE = 5;
+    private static final int LEVEL = 10;
+    private static final int WEIGHT = 11;
+    private static final int PRINT = 12;
+    private static final int CHARACTER = 13;
+    private static final int CHECK = 15;
 
     /** A fraction in least terms. */
     private record Ratio(BigInteger up, BigInteger down) {
@@ -503,81 +510,94 @@ public final class ModelTest {
         }
     }
 
-    private static String answer(long v) {
-        return Long.toString(v);
-    }
+    /** The program and the model, both asked the same; no object is asked more often than is promised. */
+    private static final class Both {
+        private final String run;
+        private final IndexBureau program = new IndexBureau();
+        private final Model model = new Model();
+        private int calls = 0;
+        private boolean agree = true;
 
-    private static String onProgram(IndexBureau x, Call call) {
-        try {
-            return answer(call.onProgram(x));
-        } catch (RuntimeException e) {
-            return "throws." + e.getClass().getSimpleName();
+        Both(String run) {
+            this.run = run;
         }
-    }
 
-    private static String onModel(Model x, Call call) {
-        try {
-            return answer(call.onModel(x));
-        } catch (RuntimeException e) {
-            return "throws." + e.getClass().getSimpleName();
+        /** Whether they have agreed so far, and may be asked more. */
+        boolean goOn() {
+            return agree && calls < MOST_CALLS;
+        }
+
+        void ask(Call call) {
+            if (!goOn()) {
+                return;
+            }
+            calls++;
+            String got = onProgram(call);
+            String due = onModel(call);
+            if (!got.equals(due)) {
+                agree = false;
+                System.out.println(run + ", call " + calls + ": " + call.text() + " answered " + got
+                        + ", due is " + due);
+            } else if (call.method() == CLOSE) {
+                model.outcomes.forEach(o -> OUTCOMES_SEEN[o]++);
+            }
+        }
+
+        private String onProgram(Call call) {
+            try {
+                return Long.toString(call.onProgram(program));
+            } catch (RuntimeException e) {
+                return "throws." + e.getClass().getSimpleName();
+            }
+        }
+
+        private String onModel(Call call) {
+            try {
+                return Long.toString(call.onModel(model));
+            } catch (RuntimeException e) {
+                return "throws." + e.getClass().getSimpleName();
+            }
+        }
+
+        private void ask(int method, int a, int b) {
+            ask(new Call(method, a, b, 0, 0, 0));
+        }
+
+        /** All that can be asked, as far as calls are left: so it begins elsewhere each time. */
+        void lookAround(int first) {
+            ask(CHECK, 0, 0);
+            ask(LEVEL, 0, 0);
+            for (int s = 0; s < 8; s++) {
+                ask(WEIGHT, s, 0);
+            }
+            for (int i = 0; i < 10 && goOn(); i++) {
+                int at = Math.floorMod(first + i, 10);
+                lookAtPrint(Math.min(at, 2), Math.max(at - 2, 0));
+            }
+        }
+
+        private void lookAtPrint(int what, int share) {
+            ask(PRINT, what, share);
+            longest = Math.max(longest, model.printed.length());
+            for (int i = 0; i <= model.printed.length() && goOn(); i++) {
+                ask(CHARACTER, i, 0);
+            }
         }
     }
 
     private static final int[] OUTCOMES_SEEN = new int[4];
     private static int longest = 0;
 
-    /** Whether the printed fractions are the same to the last character, and all else that can be asked. */
-    private static String difference(IndexBureau x, Model m) {
-        for (int what = 0; what < 3; what++) {
-            for (int share = 0; share < (what == 2 ? 8 : 1); share++) {
-                if (x.print(what, share) != m.print(what, share)) {
-                    return "length of print(" + what + ", " + share + "), due is " + m.printed;
-                }
-                longest = Math.max(longest, m.printed.length());
-                for (int i = 0; i <= m.printed.length(); i++) {
-                    if (x.character(i) != m.character(i)) {
-                        return "character " + i + " of print(" + what + ", " + share + "), due is " + m.printed;
-                    }
-                }
-            }
-        }
-        for (int i = 0; i < 8; i++) {
-            if (x.weight(i) != m.weight(i)) {
-                return "weight(" + i + "), due is " + m.weight(i);
-            }
-        }
-        return x.check() == m.check() ? "" : "check(), due is " + m.check();
-    }
-
-    /** Both answer a call; what can be asked behind a close is asked, too. */
-    private static boolean callAgrees(String run, Call call, IndexBureau program, Model model) {
-        String got = onProgram(program, call);
-        String due = onModel(model, call);
-        if (!got.equals(due)) {
-            System.out.println(run + ": " + call.text() + " answered " + got + ", due is " + due);
-            return false;
-        }
-        if (call.method() != 5) {
-            return true;
-        }
-        model.outcomes.forEach(o -> OUTCOMES_SEEN[o]++);
-        String difference = difference(program, model);
-        if (!difference.isEmpty()) {
-            System.out.println(run + ", behind a close: " + difference);
-        }
-        return difference.isEmpty();
-    }
-
-    private static boolean runAgrees(long seed) {
+    private static boolean runAgrees(int seed) {
         Drawer drawer = new Drawer(seed);
-        IndexBureau program = new IndexBureau();
-        Model model = new Model();
-        for (int i = 0; i < CALLS; i++) {
-            if (!callAgrees("seed " + seed + ", call " + i, drawer.next(i), program, model)) {
-                return false;
-            }
+        Both both = new Both("seed " + seed);
+        // Some runs are short, so that calls are left to look around behind them.
+        int length = seed % 2 == 0 ? MOST_CALLS : 30 + drawer.random.nextInt(200);
+        for (int i = 0; i < length && both.goOn(); i++) {
+            both.ask(drawer.next(i));
         }
-        return true;
+        both.lookAround(seed / 2);
+        return both.agree;
     }
 
     /** A divisor as long as it may be, and behind it a cap whose factors have nothing in common with the prices. */
@@ -610,15 +630,19 @@ public final class ModelTest {
         return calls;
     }
 
+    /** Looks around behind each close, on a new object each time. */
     private static boolean longRunAgrees(int seed) {
-        IndexBureau program = new IndexBureau();
-        Model model = new Model();
-        for (Call call : longRun(seed)) {
-            if (!callAgrees("long run " + seed, call, program, model)) {
-                return false;
+        List<Call> calls = longRun(seed);
+        boolean agree = true;
+        for (int end = 1; end <= calls.size() && agree; end++) {
+            if (calls.get(end - 1).method() == CLOSE) {
+                Both both = new Both("long run " + seed + " of " + end);
+                calls.subList(0, end).forEach(both::ask);
+                both.lookAround(seed + end);
+                agree = both.agree;
             }
         }
-        return true;
+        return agree;
     }
 
     public static void main(String[] args) {

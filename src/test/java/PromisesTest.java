@@ -44,43 +44,40 @@ public final class PromisesTest {
         }
     }
 
-    private static String printed(IndexBureau x, int what, int share) {
+    private static String printed(Bureau x, int what, int share) {
         int length = x.print(what, share);
-        StringBuilder text = new StringBuilder();
-        for (int i = 0; i < length; i++) {
-            text.append((char) x.character(i));
-        }
+        String text = x.text(length);
         due("the character behind the last", x.character(length), NONE);
-        return text.toString();
+        return text;
     }
 
-    private static String levelOf(IndexBureau x) {
+    private static String levelOf(Bureau x) {
         return printed(x, 0, 0);
     }
 
-    private static String divisorOf(IndexBureau x) {
+    private static String divisorOf(Bureau x) {
         return printed(x, 1, 0);
     }
 
-    private static String factorOf(IndexBureau x, int share) {
+    private static String factorOf(Bureau x, int share) {
         return printed(x, 2, share);
     }
 
-    private static void put(IndexBureau x, int share, int price, int count, int free) {
+    private static void put(Bureau x, int share, int price, int count, int free) {
         due("set price", x.set(share, PRICE, price), 0);
         due("set count", x.set(share, COUNT, count), 0);
         due("set float", x.set(share, FLOAT, free), 0);
     }
 
-    private static void dueShare(IndexBureau x, int share, int price, int count, int free) {
+    private static void dueShare(Bureau x, int share, int price, int count, int free) {
         due("price of " + share, x.get(share, PRICE), price);
         due("count of " + share, x.get(share, COUNT), count);
         due("float of " + share, x.get(share, FLOAT), free);
     }
 
     /** Shares 0, 1, .. worth these many, all members; the level is 10. */
-    private static IndexBureau ofWorths(int... worths) {
-        IndexBureau x = new IndexBureau();
+    private static Bureau ofWorths(int... worths) {
+        Bureau x = new Bureau();
         for (int s = 0; s < worths.length; s++) {
             put(x, s, worths[s], 1, 1);
         }
@@ -89,8 +86,8 @@ public final class PromisesTest {
     }
 
     /** Share 0 alone is a member, the level is 10; share 1 is like it. */
-    private static IndexBureau ofOne(int price, int count) {
-        IndexBureau x = new IndexBureau();
+    private static Bureau ofOne(int price, int count) {
+        Bureau x = new Bureau();
         put(x, 0, price, count, 1);
         put(x, 1, price, count, 1);
         x.base(1, 10);
@@ -98,7 +95,7 @@ public final class PromisesTest {
     }
 
     /** Notes one event and closes: its outcome. */
-    private static int after(IndexBureau x, int kind, int share, int a, int b, int c) {
+    private static int after(Bureau x, int kind, int share, int a, int b, int c) {
         due("event", x.event(kind, share, a, b, c), 1);
         int done = x.close();
         int outcome = x.outcome(0);
@@ -109,27 +106,32 @@ public final class PromisesTest {
     }
 
     /** An event that is not done: its outcome, and that all is as it was. */
-    private static void dueRefused(IndexBureau x, int want, int kind, int share, int a, int b, int c) {
+    private static void dueRefused(Bureau x, int want, int kind, int share, int a, int b, int c) {
         String what = "event " + kind + " of " + share + " with " + a + " " + b + " " + c;
         String before = state(x);
         due(what, after(x, kind, share, a, b, c), want);
         dueText("the state behind " + what, state(x), before);
     }
 
-    private static String state(IndexBureau x) {
+    /** All that an event may change; of a long level and divisor not each character. */
+    private static String state(Bureau x) {
         StringBuilder text = new StringBuilder();
         text.append(x.members());
         for (int s = 0; s < 8; s++) {
             text.append(' ').append(x.get(s, PRICE)).append(',').append(x.get(s, COUNT));
-            text.append(',').append(x.get(s, FLOAT)).append(',');
-            text.append(x.members() == NONE ? "" : factorOf(x, s)).append(',').append(x.weight(s));
+            text.append(',').append(x.get(s, FLOAT)).append(',').append(factorOf(x, s)).append(',').append(x.weight(s));
         }
-        return text.append(x.members() == NONE ? "" : " " + levelOf(x) + " " + divisorOf(x)).toString();
+        text.append(' ').append(x.level()).append(' ').append(x.places(0)).append(' ').append(x.places(1));
+        for (int what = 0; what < 2; what++) {
+            int length = x.print(what, 0);
+            text.append(' ').append(length).append(' ').append(x.text(Math.min(length, 20)));
+        }
+        return text.toString();
     }
 
     private static void promise1() {
         promise = 1;
-        IndexBureau x = new IndexBureau();
+        Bureau x = new Bureau();
         for (int s = 0; s < 8; s++) {
             dueShare(x, s, 1, 1, 1);
             due("weight", x.weight(s), NONE);
@@ -150,7 +152,7 @@ public final class PromisesTest {
 
     private static void promise2() {
         promise = 2;
-        IndexBureau x = new IndexBureau();
+        Bureau x = new Bureau();
         int[] most = {9999999, 9999999, 100};
         for (int what = 0; what < 3; what++) {
             due("set to the most", x.set(7, what, most[what]), 0);
@@ -173,7 +175,7 @@ public final class PromisesTest {
     }
 
     private static void setBetweenCloses() {
-        IndexBureau x = ofOne(100, 10);
+        Bureau x = ofOne(100, 10);
         due("set the count of a member", x.set(0, COUNT, 20), NONE);
         due("set the float of a member", x.set(0, FLOAT, 20), NONE);
         dueShare(x, 0, 100, 10, 1);
@@ -191,7 +193,7 @@ public final class PromisesTest {
 
     private static void promise3() {
         promise = 3;
-        IndexBureau x = new IndexBureau();
+        Bureau x = new Bureau();
         put(x, 3, 11, 22, 33);
         dueShare(x, 3, 11, 22, 33);
         dueShare(x, 2, 1, 1, 1);
@@ -207,7 +209,7 @@ public final class PromisesTest {
 
     private static void promise4() {
         promise = 4;
-        IndexBureau x = new IndexBureau();
+        Bureau x = new Bureau();
         for (int members : new int[] {0, 256, 257, -1, MIN, MAX}) {
             dueThrow("members " + members, IllegalArgumentException.class, () -> x.base(members, 5));
         }
@@ -225,7 +227,7 @@ public final class PromisesTest {
     }
 
     private static void baseAgain() {
-        IndexBureau x = ofWorths(60, 30, 10);
+        Bureau x = ofWorths(60, 30, 10);
         due("cap", after(x, 8, 0, 50, 0, 0), 0);
         due("leave", after(x, 4, 0, 0, 0, 0), 0);
         dueText("factor", factorOf(x, 0), "2/3");
@@ -251,7 +253,7 @@ public final class PromisesTest {
 
     private static void promise5() {
         promise = 5;
-        IndexBureau x = new IndexBureau();
+        Bureau x = new Bureau();
         due("members", x.members(), NONE);
         x.base(0b10100101, 5);
         due("members", x.members(), 0b10100101);
@@ -262,7 +264,7 @@ public final class PromisesTest {
 
     private static void promise6() {
         promise = 6;
-        IndexBureau x = new IndexBureau();
+        Bureau x = new Bureau();
         due("no index", x.event(0, 0, 1, 1, 1), NONE);
         x.base(3, 5);
         for (int bad : new int[] {-1, 9, MAX, MIN}) {
@@ -287,7 +289,7 @@ public final class PromisesTest {
     }
 
     private static void splits() {
-        IndexBureau x = ofOne(101, 10);
+        Bureau x = ofOne(101, 10);
         due("two for one", after(x, 0, 0, 2, 1, 0), 0);
         dueShare(x, 0, 51, 20, 1);
         dueText("divisor", divisorOf(x), "102");
@@ -298,17 +300,17 @@ public final class PromisesTest {
         dueShare(x, 0, 1020, 1, 1);
         dueRefused(x, 1, 0, 0, 1, 2, 0);
         for (int bad : new int[] {0, -1, 1001, MAX, MIN}) {
-            dueRefused(x, 1, 0, 0, bad, 1, 0);
-            dueRefused(x, 1, 0, 0, 1, bad, 0);
-            dueRefused(x, 1, 0, 0, bad, bad, 0);
+            dueRefused(ofOne(1020, 1), 1, 0, 0, bad, 1, 0);
+            dueRefused(ofOne(1020, 1), 1, 0, 0, 1, bad, 0);
+            dueRefused(ofOne(1020, 1), 1, 0, 0, bad, bad, 0);
         }
         due("a thousand for a thousand", after(x, 0, 0, 1000, 1000, 0), 0);
-        IndexBureau low = ofOne(499, 9999);
+        Bureau low = ofOne(499, 9999);
         dueRefused(low, 1, 0, 0, 1000, 1, 0);
         low.set(0, PRICE, 500);
         due("a price of a half", after(low, 0, 0, 1000, 1, 0), 0);
         dueShare(low, 0, 1, 9999000, 1);
-        IndexBureau many = ofOne(500, 10000);
+        Bureau many = ofOne(500, 10000);
         dueRefused(many, 1, 0, 0, 1000, 1, 0);
         many.set(0, PRICE, 10000);
         dueRefused(many, 1, 0, 0, 1, 1000, 0);
@@ -321,7 +323,7 @@ public final class PromisesTest {
     }
 
     private static void rights() {
-        IndexBureau x = ofOne(100, 10);
+        Bureau x = ofOne(100, 10);
         due("one for two", after(x, 1, 0, 1, 2, 50), 0);
         dueShare(x, 0, 83, 15, 1);
         dueText("divisor", divisorOf(x), "249/2");
@@ -334,28 +336,28 @@ public final class PromisesTest {
         dueText("divisor", divisorOf(x), "249");
         dueRefused(x, 1, 1, 0, 1, 7, 82);
         for (int bad : new int[] {0, -1, 1001, MAX, MIN}) {
-            dueRefused(x, 1, 1, 0, bad, 1, 9999999);
-            dueRefused(x, 1, 1, 0, 1, bad, 9999999);
+            dueRefused(ofOne(83, 30), 1, 1, 0, bad, 1, 9999999);
+            dueRefused(ofOne(83, 30), 1, 1, 0, 1, bad, 9999999);
         }
         for (int bad : new int[] {0, -1, 10000000, MAX, MIN}) {
-            dueRefused(x, 1, 1, 0, 1, 1, bad);
+            dueRefused(ofOne(83, 30), 1, 1, 0, 1, 1, bad);
         }
-        IndexBureau many = ofOne(2, 5000000);
+        Bureau many = ofOne(2, 5000000);
         dueRefused(many, 1, 1, 0, 1, 1, 1);
         due("nothing is done", after(many, 1, 0, 1, 1, 2), 0);
     }
 
     private static void dividends() {
         for (int kind = 2; kind <= 3; kind++) {
-            IndexBureau x = ofOne(100, 10);
             for (int bad : new int[] {0, -1, 100, 101, MAX, MIN}) {
-                dueRefused(x, 1, kind, 0, bad, 0, 0);
+                dueRefused(ofOne(100, 10), 1, kind, 0, bad, 0, 0);
             }
+            Bureau x = ofOne(100, 10);
             due("dividend", after(x, kind, 0, 10, 0, 0), 0);
             due("price", x.get(0, PRICE), 90);
             dueText("divisor", divisorOf(x), kind == 2 ? "90" : "100");
             dueText("level", levelOf(x), kind == 2 ? "10" : "9");
-            due("published", x.published(x.days() - 1), kind == 2 ? 1000 : 900);
+            due("published", x.published(0), kind == 2 ? 1000 : 900);
             due("all but a cent", after(x, kind, 0, 89, 0, 0), 0);
             due("price", x.get(0, PRICE), 1);
             due("one that is none", after(x, kind, 1, 1, 0, 0), 0);
@@ -366,9 +368,9 @@ public final class PromisesTest {
     }
 
     private static void comingAndGoing() {
-        IndexBureau x = ofWorths(60, 30, 10);
-        dueRefused(x, 2, 5, 2, 0, 0, 0);
-        dueRefused(x, 2, 4, 3, 0, 0, 0);
+        dueRefused(ofWorths(60, 30, 10), 2, 5, 2, 0, 0, 0);
+        dueRefused(ofWorths(60, 30, 10), 2, 4, 3, 0, 0, 0);
+        Bureau x = ofWorths(60, 30, 10);
         due("cap", after(x, 8, 0, 50, 0, 0), 0);
         due("leave", after(x, 4, 0, 0, 0, 0), 0);
         due("members", x.members(), 6);
@@ -392,12 +394,12 @@ public final class PromisesTest {
     private static void countsAndFloats() {
         int[] most = {9999999, 100};
         for (int kind = 6; kind <= 7; kind++) {
-            IndexBureau x = ofOne(100, 1);
             int what = kind - 5;
             for (int bad : new int[] {0, -1, most[what - 1] + 1, MAX, MIN}) {
-                dueRefused(x, 1, kind, 0, bad, 0, 0);
-                dueRefused(x, 1, kind, 1, bad, 0, 0);
+                dueRefused(ofOne(100, 1), 1, kind, 0, bad, 0, 0);
+                dueRefused(ofOne(100, 1), 1, kind, 1, bad, 0, 0);
             }
+            Bureau x = ofOne(100, 1);
             due("to the most", after(x, kind, 0, most[what - 1], 0, 0), 0);
             due("the most", x.get(0, what), most[what - 1]);
             dueText("level", levelOf(x), "10");
@@ -410,10 +412,10 @@ public final class PromisesTest {
     }
 
     private static void caps() {
-        IndexBureau x = ofWorths(50, 36, 8, 6);
         for (int bad : new int[] {0, -1, 101, 24, MAX, MIN}) {
-            dueRefused(x, 2, 8, 0, bad, 0, 0);
+            dueRefused(ofWorths(50, 36, 8, 6), 2, 8, 0, bad, 0, 0);
         }
+        Bureau x = ofWorths(50, 36, 8, 6);
         due("a cap that makes a second one large", after(x, 8, 7, 40, 0, 0), 0);
         dueText("factor", factorOf(x, 0), "14/25");
         dueText("factor", factorOf(x, 1), "7/9");
@@ -436,18 +438,18 @@ public final class PromisesTest {
         due("no cap at all", after(x, 8, 0, 100, 0, 0), 0);
         dueText("divisor", divisorOf(x), "10");
         due("check", x.check(), 1);
-        IndexBureau one = ofOne(5, 5);
+        Bureau one = ofOne(5, 5);
         dueRefused(one, 2, 8, 0, 99, 0, 0);
         due("a cap of one member", after(one, 8, 1, 100, 0, 0), 0);
-        IndexBureau three = ofWorths(5, 5, 6);
+        Bureau three = ofWorths(5, 5, 6);
         dueRefused(three, 2, 8, 0, 33, 0, 0);
         due("a cap of three", after(three, 8, 0, 34, 0, 0), 0);
         dueText("factor", factorOf(three, 2), "85/99");
     }
 
     /** Shares 0 and 1 are members; share 2 was capped, and has left with the factor 2/15. */
-    private static IndexBureau ofOneLeft() {
-        IndexBureau x = ofWorths(1, 7, 60);
+    private static Bureau ofOneLeft() {
+        Bureau x = ofWorths(1, 7, 60);
         due("cap", after(x, 8, 0, 50, 0, 0), 0);
         due("leave", after(x, 4, 2, 0, 0, 0), 0);
         dueText("the factor of one that has left", factorOf(x, 2), "2/15");
@@ -455,10 +457,10 @@ public final class PromisesTest {
     }
 
     private static void capsBehindLeaving() {
-        IndexBureau x = ofOneLeft();
         for (int bad : new int[] {0, 49, 101}) {
-            dueRefused(x, 2, 8, 2, bad, 0, 0);
+            dueRefused(ofOneLeft(), 2, 8, 2, bad, 0, 0);
         }
+        Bureau x = ofOneLeft();
         due("cap with a large one", after(x, 8, 2, 50, 0, 0), 0);
         dueText("the factor of a large one", factorOf(x, 1), "1/7");
         dueText("the factor of one that is not large", factorOf(x, 0), "1");
@@ -466,10 +468,10 @@ public final class PromisesTest {
         dueText("level", levelOf(x), "10");
         dueText("divisor", divisorOf(x), "1/5");
         due("check", x.check(), 1);
-        IndexBureau none = ofOneLeft();
+        Bureau none = ofOneLeft();
         due("cap without a large one", after(none, 8, 0, 100, 0, 0), 0);
         dueText("the factor of one that has left", factorOf(none, 2), "1");
-        IndexBureau once = ofWorths(1, 7, 60);
+        Bureau once = ofWorths(1, 7, 60);
         due("cap", after(once, 8, 0, 50, 0, 0), 0);
         due("a cap noted", once.event(8, 0, 90, 0, 0), 1);
         due("and one that leaves before it", once.event(4, 2, 0, 0, 0), 2);
@@ -478,7 +480,7 @@ public final class PromisesTest {
     }
 
     /** Each close divides the divisor by one worth and multiplies it by another, with little in common. */
-    private static void makeDivisorLong(IndexBureau x) {
+    private static void makeDivisorLong(Bureau x) {
         for (int i = 0; i < 40; i++) {
             x.set(0, PRICE, 9999999 - 2 * i);
             x.event(2, 0, 4999999 + 3 * i, 0, 0);
@@ -492,29 +494,35 @@ public final class PromisesTest {
         fault("the divisor is never too long");
     }
 
-    private static void tooLong() {
-        IndexBureau x = ofWorths(1, 7);
+    private static Bureau ofLong() {
+        Bureau x = ofWorths(1, 7);
         makeDivisorLong(x);
-        dueText("above", x.places(0) > 480 || x.places(1) > 480 ? "long" : "short", "long");
-        dueRefused(x, 3, 2, 0, 4999998, 0, 0);
-        dueRefused(x, 3, 6, 0, 9999991, 0, 0);
-        dueRefused(x, 1, 6, 0, 10000000, 0, 0);
-        dueRefused(x, 2, 5, 0, 0, 0, 0);
+        dueText("above or below", x.places(0) > 480 || x.places(1) > 480 ? "long" : "short", "long");
+        return x;
+    }
+
+    private static void tooLong() {
+        dueRefused(ofLong(), 3, 2, 0, 4999998, 0, 0);
+        dueRefused(ofLong(), 3, 6, 0, 9999991, 0, 0);
+        dueRefused(ofLong(), 1, 6, 0, 10000000, 0, 0);
+        dueRefused(ofLong(), 2, 5, 0, 0, 0, 0);
+        dueRefused(ofLong(), 3, 8, 0, 50, 0, 0);
+        Bureau joining = ofLong();
+        put(joining, 2, 9999991, 9999973, 97);
+        dueRefused(joining, 3, 5, 2, 0, 0, 0);
+        Bureau x = ofLong();
         due("a share that is none", after(x, 2, 2, 1, 0, 0), 1);
         due("one that leaves the divisor", after(x, 3, 0, 1, 0, 0), 0);
         due("rights of which nothing is done", after(x, 1, 0, 1, 1, 9999999), 0);
-        put(x, 2, 9999991, 9999973, 97);
-        dueRefused(x, 3, 5, 2, 0, 0, 0);
-        dueRefused(x, 3, 8, 0, 50, 0, 0);
         due("check", x.check(), 1);
-        IndexBureau left = ofOneLeft();
+        Bureau left = ofOneLeft();
         makeDivisorLong(left);
         dueRefused(left, 3, 8, 0, 50, 0, 0);
         dueText("the factor of one that has left", factorOf(left, 2), "2/15");
     }
 
     private static void orderOfClose() {
-        IndexBureau x = ofWorths(100, 100);
+        Bureau x = ofWorths(100, 100);
         int[][] events = {{8, 0, 60}, {6, 1, 3}, {6, 0, 2}, {6, 1, 4}, {2, 1, 50}, {5, 2, 0}, {4, 1, 0}, {2, 0, 50}};
         for (int i = 0; i < events.length; i++) {
             due("event", x.event(events[i][0], events[i][1], events[i][2], 1, 1), i + 1);
@@ -533,7 +541,7 @@ public final class PromisesTest {
 
     private static void promise7() {
         promise = 7;
-        IndexBureau none = new IndexBureau();
+        Bureau none = new Bureau();
         dueThrow("no index", IllegalStateException.class, none::close);
         splits();
         rights();
@@ -548,9 +556,8 @@ public final class PromisesTest {
     }
 
     private static void allDays() {
-        IndexBureau x = ofOne(100, 10);
+        Bureau x = ofOne(100, 10);
         for (int day = 0; day < 250; day++) {
-            due("day", x.days(), day);
             due("close", x.close(), 0);
         }
         x.event(2, 0, 10, 0, 0);
@@ -567,7 +574,7 @@ public final class PromisesTest {
 
     private static void promise8And9() {
         promise = 8;
-        IndexBureau x = ofOne(100, 10);
+        Bureau x = ofOne(100, 10);
         due("no close yet", x.outcome(0), NONE);
         x.event(4, 0, 0, 0, 0);
         due("only noted", x.outcome(0), NONE);
@@ -596,7 +603,7 @@ public final class PromisesTest {
 
     private static void promise10And11() {
         promise = 10;
-        IndexBureau x = new IndexBureau();
+        Bureau x = new Bureau();
         due("days", x.days(), NONE);
         put(x, 0, 3, 1, 1);
         x.base(1, 1);
@@ -615,11 +622,11 @@ public final class PromisesTest {
 
     private static void promise12() {
         promise = 12;
-        IndexBureau x = ofOne(8, 25);
+        Bureau x = ofOne(8, 25);
         due("level", x.level(), 1000);
         x.set(0, PRICE, 9);
         due("level", x.level(), 1125);
-        IndexBureau y = ofOne(4000, 1);
+        Bureau y = ofOne(4000, 1);
         y.set(0, PRICE, 4001);
         due("a quarter goes down", y.level(), 1000);
         y.set(0, PRICE, 4002);
@@ -628,7 +635,7 @@ public final class PromisesTest {
         due("three quarters go up", y.level(), 1001);
         y.set(0, PRICE, 1);
         due("a quarter of a hundredth", y.level(), 0);
-        IndexBureau z = new IndexBureau();
+        Bureau z = new Bureau();
         z.base(1, 1000000);
         z.set(0, PRICE, 9999999);
         due("a great level", z.level(), 999999900000000L);
@@ -643,12 +650,12 @@ public final class PromisesTest {
 
     private static void promise13() {
         promise = 13;
-        IndexBureau x = ofWorths(1, 1, 1);
+        Bureau x = ofWorths(1, 1, 1);
         due("a third", x.weight(0), 333333333);
         for (int bad : new int[] {-1, 3, 7, 8, 32, MAX, MIN}) {
             due("weight(" + bad + ")", x.weight(bad), NONE);
         }
-        due("weight without an index", new IndexBureau().weight(0), NONE);
+        due("weight without an index", new Bureau().weight(0), NONE);
         due("all", ofOne(7, 7).weight(0), 1000000000);
         x.set(0, PRICE, 9999999);
         due("with its price", x.weight(0), 999999800);
@@ -657,7 +664,7 @@ public final class PromisesTest {
 
     private static void promise14And15() {
         promise = 14;
-        IndexBureau x = new IndexBureau();
+        Bureau x = new Bureau();
         for (int what = 0; what < 3; what++) {
             due("without an index", x.print(what, 0), NONE);
         }
@@ -689,13 +696,13 @@ public final class PromisesTest {
 
     private static void promise16() {
         promise = 16;
-        IndexBureau x = ofOne(6, 1);
+        Bureau x = ofOne(6, 1);
         due("above: 3", x.places(0), 2);
         due("below: 5", x.places(1), 3);
         for (int bad : new int[] {-1, 2, MAX, MIN}) {
             due("places(" + bad + ")", x.places(bad), NONE);
         }
-        IndexBureau great = ofOne(9999999, 9999999);
+        Bureau great = ofOne(9999999, 9999999);
         due("above", great.places(0), 47);
         due("below", great.places(1), 4);
         due("count to one", after(great, 6, 0, 1, 0, 0), 0);
@@ -704,8 +711,8 @@ public final class PromisesTest {
 
     private static void promise17() {
         promise = 17;
-        due("without an index", new IndexBureau().check(), NONE);
-        IndexBureau x = ofWorths(60, 30, 10);
+        due("without an index", new Bureau().check(), NONE);
+        Bureau x = ofWorths(60, 30, 10);
         due("behind base", x.check(), 1);
         due("cap", after(x, 8, 0, 34, 0, 0), 0);
         due("behind a cap", x.check(), 1);
